@@ -721,7 +721,7 @@ public final class HeapBrowser {
         private void grow(int object) {
             age[object] = Math.min(age[object] + 1, MOST_AGE);
             // Only a holder can contain what was removed: all others keep what they contain.
-            if (group[object] == HOLDER && !hasObject(targetOf(object, 0))) {
+            if (group[object] == HOLDER && !hasObject(slots[object * MOST_SLOTS])) {
                 emptySlotsFrom(object, 0);
             }
         }
