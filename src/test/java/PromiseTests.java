@@ -202,6 +202,13 @@ public final class PromiseTests {
         due(x.isSubclass(3, 1), false);
         due(x.isSubclass(2, 3), false);
         due(x.isSubclass(0, 3), false);
+        HeapBrowser chain = new HeapBrowser();
+        for (int number = 1; number < 10; number++) {
+            chain.defineClass(number - 1, 0, 0);
+        }
+        due(chain.isSubclass(9, 0), true);
+        due(chain.isSubclass(9, 1), true);
+        due(chain.isSubclass(0, 9), false);
         refused(x, INDEX, () -> x.isSubclass(4, 0));
         refused(x, INDEX, () -> x.isSubclass(0, 4));
         refused(x, INDEX, () -> x.isSubclass(-1, 0));
@@ -465,6 +472,24 @@ public final class PromiseTests {
         due(x.collect(), 0);
         due(x.objectInfo(1, 3), 99);
         due(new HeapBrowser().collect(), 0);
+        agesOfInstances();
+    }
+
+    /** Instances of class 0 age, too, and a number that was used before gives no age to the next object. */
+    private static void agesOfInstances() {
+        HeapBrowser x = new HeapBrowser();
+        x.newInstance(0);
+        x.addRoot(0, 1);
+        due(x.distance(0), 0);
+        due(x.collect(), 0);
+        due(x.collect(), 0);
+        due(x.objectInfo(0, 3), 2);
+        x.removeRoot(0, 1);
+        due(x.collect(), 16);
+        due(x.newInstance(0), 0);
+        due(x.objectInfo(0, 3), 0);
+        due(x.objectInfo(0, 5), 0);
+        due(x.distance(0), NONE);
     }
 
     private static void promise16() {
@@ -518,8 +543,16 @@ public final class PromiseTests {
         due(x.objectInfo(2, 6), 1);
         due(x.objectInfo(2, 7), 3);
         due(x.objectInfo(0, 7), 0);
+        x.set(0, 0, NONE);
+        due(x.objectInfo(2, 7), 2);
+        due(x.objectInfo(0, 6), 1);
+        due(x.objectInfo(2, 7), 2);
         x.collect();
         due(x.objectInfo(1, 3), 1);
+        HeapBrowser y = graph(2, numbers(1), 0, 1, 0, 1);
+        due(y.objectInfo(1, 7), 2);
+        y.collect();
+        due(y.objectInfo(1, 7), 0);
         refused(x, INDEX, () -> x.objectInfo(0, 0));
         refused(x, INDEX, () -> x.objectInfo(-1, 8));
         refused(x, ARGUMENT, () -> x.objectInfo(1, 8));
@@ -562,6 +595,7 @@ public final class PromiseTests {
             due(x.undo(), 3);
             due(x.objects(), 1);
         }
+        due(new HeapBrowser().populate(0, 40), 40);
         HeapBrowser y = graph(4, numbers(2));
         y.collect();
         due(y.populate(3, 2), 3);
@@ -630,6 +664,12 @@ public final class PromiseTests {
         HeapBrowser y = graph(10, numbers(1, 2), 2, 0, 0, 3, 1, 9, 9, 3);
         due(y.pathAt(3, 0), 1);
         due(y.pathAt(3, 1), 9);
+        // An object 0 within a path is no end of it.
+        HeapBrowser z = graph(4, numbers(3), 3, 0, 0, 1, 1, 2);
+        due(z.pathAt(2, 0), 3);
+        due(z.pathAt(2, 1), 0);
+        due(z.pathAt(2, 2), 1);
+        due(z.pathAt(2, 3), 2);
         for (int wild : WILD) {
             due(x.pathAt(7, wild), NONE);
         }
@@ -639,6 +679,11 @@ public final class PromiseTests {
     /** 0 is a root; 1 and 2 lead to 3, which leads to 4; 5 is a root that leads to 6, 4 leads to 7; 8 is garbage. */
     private static HeapBrowser diamond() {
         return graph(9, numbers(0, 5), 0, 1, 0, 2, 1, 3, 2, 3, 3, 4, 5, 6, 4, 7, 8, 8, 8, 4);
+    }
+
+    /** 0 leads to 2 by 1 and, on a longer way that is found later, by 4 to 7; 2 leads to 3 and 8. */
+    private static HeapBrowser lateJoin() {
+        return graph(9, numbers(0), 0, 1, 1, 2, 2, 3, 3, 8, 0, 4, 4, 5, 5, 6, 6, 7, 7, 2);
     }
 
     private static void promise22() {
@@ -658,6 +703,12 @@ public final class PromiseTests {
         x.addRoot(4, 0);
         due(x.dominates(3, 4), false);
         due(x.dominates(4, 7), true);
+        HeapBrowser y = lateJoin();
+        due(y.dominates(1, 3), false);
+        due(y.dominates(1, 8), false);
+        due(y.dominates(7, 2), false);
+        due(y.dominates(2, 8), true);
+        due(y.dominates(5, 7), true);
     }
 
     private static void promise23() {
@@ -673,6 +724,11 @@ public final class PromiseTests {
         x.set(6, 0, 4);
         due(x.dominator(4), NONE);
         due(x.dominator(7), 4);
+        HeapBrowser y = lateJoin();
+        due(y.dominator(2), 0);
+        due(y.dominator(3), 2);
+        due(y.dominator(8), 3);
+        due(y.dominator(7), 6);
     }
 
     private static void promise24() {
@@ -683,6 +739,8 @@ public final class PromiseTests {
         due(x.depth(4), 2);
         due(x.depth(7), 3);
         due(x.depth(8), NONE);
+        due(lateJoin().depth(8), 3);
+        due(lateJoin().depth(7), 4);
         noSuchObject(x, object -> x.depth(object));
     }
 
@@ -746,6 +804,12 @@ public final class PromiseTests {
         due(x.component(5), 2);
         due(x.component(6), 6);
         due(x.component(7), 7);
+        HeapBrowser y = graph(5, numbers(), 0, 2, 2, 1, 1, 0, 4, 3, 3, 4, 3, 0);
+        due(y.component(0), 0);
+        due(y.component(1), 0);
+        due(y.component(2), 0);
+        due(y.component(3), 3);
+        due(y.component(4), 3);
         noSuchObject(x, object -> x.component(object));
     }
 
@@ -762,6 +826,7 @@ public final class PromiseTests {
     private static void promise30() {
         HeapBrowser x = diamond();
         due(x.freedByClearing(0, 0), 48);
+        due(x.freedByClearing(0, 1), 48);
         due(x.freedByClearing(3, 0), 2 * 48);
         due(x.freedByClearing(1, 0), 0);
         due(x.freedByClearing(0, 2), 0);
@@ -769,6 +834,9 @@ public final class PromiseTests {
         due(x.distance(4), 3);
         x.set(3, 7, 4);
         due(x.freedByClearing(3, 0), 0);
+        HeapBrowser y = graph(3, numbers(2), 2, 0, 2, 1, 2, 1);
+        due(y.freedByClearing(2, 0), 48);
+        due(y.freedByClearing(2, 1), 0);
         x.newHolder();
         x.set(9, 0, 1);
         x.addRoot(9, 0);
@@ -913,6 +981,10 @@ public final class PromiseTests {
         due(x.suspectAt(1, -1), NONE);
         due(x.suspectAt(100, 0), NONE);
         due(new HeapBrowser().suspectAt(100, 0), NONE);
+        HeapBrowser y = graph(2, numbers(1), 1, 0);
+        due(y.suspectAt(50, 0), 0);
+        due(y.suspectAt(50, 1), NONE);
+        due(y.suspectAt(51, 0), 1);
         x.resizeArray(6, 0);
         due(x.suspectAt(1, 0), 3);
         due(x.suspectAt(1, 2), 7);
@@ -1087,6 +1159,9 @@ public final class PromiseTests {
         write(x, "n>39");
         due(x.matchSize(false), 0);
         due(x.matchSize(true), 0);
+        HeapBrowser y = graph(2, numbers(0), 0, 1);
+        write(y, "n>1");
+        due(y.matchSize(true), 0);
         write(x, "n=4|!");
         due(x.matchSize(false), -15);
         due(x.matchSize(true), -15);
@@ -1321,6 +1396,15 @@ public final class PromiseTests {
             due(x.objects(), 8 - step);
         }
         refused(x, STATE, () -> x.undo());
+        HeapBrowser y = new HeapBrowser();
+        for (int step = 0; step < 9; step++) {
+            y.newArray(step);
+        }
+        due(execute(y, "w;n9;"), -1001);
+        for (int step = 0; step < 5; step++) {
+            due(y.undo(), 4 - step);
+            due(y.objects(), 8 - step);
+        }
         due(x.newArray(1), 4);
         due(x.objectInfo(4, 1), 5);
         x.append('*');
