@@ -923,7 +923,7 @@ public final class HeapBrowser {
                 return NONE;
             }
             int present = object;
-            for (int step = steps[object]; step > index && present != NONE; step--) {
+            for (int step = steps[object]; step > index && present >= 0; step--) {
                 present = enteredFrom[present];
             }
             return present;
@@ -977,7 +977,7 @@ public final class HeapBrowser {
             boolean changed = true;
             for (int round = 0; round <= MOST_OBJECTS && changed; round++) {
                 changed = false;
-                for (int place = 0; place < search.count; place++) {
+                for (int place = 0; place < search.count && place < MOST_OBJECTS; place++) {
                     changed |= narrowTargets(search.order[place]);
                 }
             }
@@ -987,7 +987,7 @@ public final class HeapBrowser {
             boolean changed = false;
             for (int slot = 0; slot < MOST_SLOTS; slot++) {
                 int target = references[object * MOST_SLOTS + slot];
-                if (target != NONE) {
+                if (target >= 0 && target < MOST_OBJECTS) {
                     long narrowed = dominators[target] & (dominators[object] | member(target));
                     changed |= narrowed != dominators[target];
                     dominators[target] = narrowed;
@@ -1028,7 +1028,7 @@ public final class HeapBrowser {
             Arrays.fill(outgoing, 0);
             for (int place = 0; place < MOST_OBJECTS * MOST_SLOTS; place++) {
                 int target = references[place];
-                if (target != NONE) {
+                if (target >= 0 && target < MOST_OBJECTS) {
                     incoming[target]++;
                     outgoing[place / MOST_SLOTS]++;
                 }

@@ -681,9 +681,9 @@ public final class PromiseTests {
         return graph(9, numbers(0, 5), 0, 1, 0, 2, 1, 3, 2, 3, 3, 4, 5, 6, 4, 7, 8, 8, 8, 4);
     }
 
-    /** 0 leads to 2 by 1 and, on a longer way that is found later, by 4 to 7; 2 leads to 3 and 8. */
+    /** 0 leads to 2 by 1 and, on a longer way that is found later, by 4 to 7; 2 leads to 3 and 8; 9 is found last. */
     private static HeapBrowser lateJoin() {
-        return graph(9, numbers(0), 0, 1, 1, 2, 2, 3, 3, 8, 0, 4, 4, 5, 5, 6, 6, 7, 7, 2);
+        return graph(10, numbers(0), 0, 1, 1, 2, 2, 3, 3, 8, 0, 4, 4, 5, 5, 6, 6, 7, 7, 2, 7, 9, 7, 2);
     }
 
     private static void promise22() {
