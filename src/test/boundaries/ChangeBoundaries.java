@@ -251,6 +251,12 @@ final class ChangeBoundaries extends Boundaries {
                 }
             }
             x.due(NONE, h -> h.distance(2));
+            Pair full = x.another();
+            full.arrays(40, 8);
+            full.refers(39, 0, 39, 0, 39, 0, 39, 0, 39);
+            full.due(8, h -> h.objectInfo(39, 6));
+            full.due(4, h -> h.objectInfo(39, 7));
+            full.due(4, h -> h.objectInfo(0, 7));
         });
         book.says("Throws `IndexOutOfBoundsException` if there is no such object", x -> {
             x.refused(INDEX, h -> h.objectInfo(0, 0));

@@ -237,6 +237,14 @@ final class GroupBoundaries extends Boundaries {
                 x.due(suspect, h -> h.suspectAt(percent, 0));
                 x.due(NONE, h -> h.suspectAt(percent, 1));
             }
+            // The object 0 as the one that is dominated.
+            Pair turned = x.another();
+            turned.arrays(2, 1);
+            turned.refers(1, 0);
+            turned.roots(1);
+            turned.due(0, h -> h.suspectAt(50, 0));
+            turned.due(NONE, h -> h.suspectAt(50, 1));
+            turned.due(1, h -> h.suspectAt(51, 0));
             // Nothing reachable, no suspects, although 0 is at least 0.
             Pair garbage = x.another();
             garbage.arrays(2, 1);

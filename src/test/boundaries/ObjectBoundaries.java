@@ -196,6 +196,11 @@ final class ObjectBoundaries extends Boundaries {
             x.does(h -> h.newHolder());
             x.due(0, h -> h.objectInfo(3, 3));
             x.due(0, h -> h.objectInfo(3, 5));
+            // Nor does an object get the age or the root kinds of the one that had its number before.
+            x.does(h -> h.removeRoot(0, 0), h -> h.collect());
+            x.due(0, h -> h.newArray(0));
+            x.due(0, h -> h.objectInfo(0, 3));
+            x.due(0, h -> h.objectInfo(0, 5));
         });
         book.says("It is a root if this set is not empty.", x -> {
             x.does(h -> h.newArray(0));

@@ -77,6 +77,16 @@ final class PictureBoundaries extends Boundaries {
             x.does(h -> h.removeRoot(0, 1), h -> h.set(1, 0, NONE), h -> h.resizeArray(2, 8));
             x.due(0, h -> h.compare(0, 2));
             sameNumberOtherSerial(x.another());
+            Pair y = x.another();
+            y.arrays(39, 0);
+            y.does(h -> h.newArray(8), h -> h.set(39, 7, 38), h -> h.take(0));
+            y.due(0, h -> h.compare(0, 2));
+            changes(y, h -> h.set(39, 7, 37));
+            changes(y, h -> h.set(39, 6, 38));
+            Pair z = x.another();
+            z.does(h -> h.newInstance(0), h -> h.newHolder(), h -> h.take(0));
+            changes(z, h -> h.addRoot(0, 2));
+            changes(z, h -> h.set(1, 0, 1));
         });
     }
 

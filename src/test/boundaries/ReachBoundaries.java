@@ -130,6 +130,19 @@ final class ReachBoundaries extends Boundaries {
             x.roots(3);
             x.no(h -> h.dominates(0, 3));
             x.yes(h -> h.dominates(3, 3));
+            for (int[] targets : new int[][] {{2}, {2, 9}, {2, 9, 2}}) {
+                Pair y = x.another();
+                y.arrays(10, 4);
+                join(y, targets);
+            }
+            // The same with a reference from each object to the root.
+            Pair back = x.another();
+            back.arrays(10, 4);
+            for (int object = 0; object < 10; object++) {
+                int each = object;
+                back.does(h -> h.set(each, 3, 0));
+            }
+            join(back, numbers(2));
         });
         book.says("The immediate dominator of b is the dominator of b other than b itself that is dominated by all these; there is none "
                 + "if b has no other dominator than itself.", x -> {
@@ -164,6 +177,23 @@ final class ReachBoundaries extends Boundaries {
         });
     }
 
+    /** 0-1-2-3-4, and a longer way from 0 to 2, by 5, 6, 7 and 8, which is found late: 1 dominates none of 2, 3 and 4. */
+    private static void join(Pair x, int[] targetsOfLast) {
+        x.roots(0);
+        x.refers(0, 1, 5);
+        x.refers(8, targetsOfLast);
+        for (int object : numbers(1, 2, 3, 5, 6, 7)) {
+            x.refers(object, object + 1);
+        }
+        for (int object : numbers(2, 3, 4)) {
+            x.no(h -> h.dominates(1, object));
+            x.no(h -> h.dominates(8, object));
+            x.yes(h -> h.dominates(0, object));
+            x.yes(h -> h.dominates(2, object));
+        }
+        x.yes(h -> h.dominates(5, 8));
+    }
+
     private static void retained(Sentences book) {
         book.says("The objects that a set of objects retains are those that are reachable, but would not be if the objects of the set did "
                 + "not exist (the reachable objects of the set included).", x -> {
@@ -181,6 +211,14 @@ final class ReachBoundaries extends Boundaries {
                 int size = sizes[i];
                 x.writes(sets[i]);
                 x.dueWithoutChange(size, h -> h.matchSize(true));
+            }
+            Pair y = x.another();
+            chain(y, 4);
+            int[] retained = {96, 72, 48, 24};
+            for (int i = 0; i < 4; i++) {
+                int size = retained[i];
+                y.writes("n=" + i);
+                y.due(size, h -> h.matchSize(true));
             }
         });
         book.says("The retained size of a set is the sum of their sizes.", x -> {
@@ -399,6 +437,13 @@ final class ReachBoundaries extends Boundaries {
             x.due(0, h -> h.freedByClearing(3, 0));
             x.roots(1);
             x.due(0, h -> h.freedByClearing(0, 0));
+            // The root is not the object 0, and the last object and slot count like the first ones.
+            Pair y = x.another();
+            y.arrays(40, 8);
+            y.roots(39);
+            y.does(h -> h.set(39, 7, 0), h -> h.set(0, 0, 38));
+            y.due(96, h -> h.freedByClearing(39, 7));
+            y.due(48, h -> h.freedByClearing(0, 0));
         });
         book.says("Nothing changes.", x -> {
             chain(x, 3);

@@ -108,6 +108,13 @@ final class StateBoundaries extends Boundaries {
             y.does(h -> h.newArray(0), h -> h.append('*'), h -> h.take(0), h -> h.undo());
             y.due(1, h -> h.compare(0, 1));
             y.due(1, h -> h.clearText());
+            // All 40 objects come back with all that is theirs.
+            Pair full = x.another();
+            full.does(h -> h.defineClass(0, 3, 5), h -> h.populate(5, 40));
+            long before = full.answer(h -> h.digest());
+            full.does(h -> h.collect());
+            full.due(2, h -> h.undo());
+            full.due(before, h -> h.digest());
         });
     }
 
